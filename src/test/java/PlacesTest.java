@@ -223,6 +223,10 @@ public final class PlacesTest {
         z.among(z.thing(0, 0), (1 << 10) - 1);
         z.among(z.thing(0, 0), (1 << 10) - 1);
         z.among(z.thing(0, 0), 3);
+        int twice = z.thing(0, 0);
+        z.among(twice, 3);
+        due.is("22 6000", z.settle(), STATE);
+        z.put(twice, 0);
         due.is("22 3000", z.settle(), 4);
         z.among(z.thing(0, 0), (1 << 15) - 1);
         due.is("22 more", z.settle(), 1);
