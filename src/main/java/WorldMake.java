@@ -1654,11 +1654,11 @@ public final class WorldMake {
             return walk;
         }
 
-        /** How many couples a, b there are of which a has b; in groups each thing has itself, as related() tells. */
+        /** How many couples a, b there are of which a has b. In groups a thing has itself, which is no couple. */
         int couples(int relation) {
             int found = 0;
             for (int thing = 0; thing < things.number; thing++) {
-                found += Long.bitCount(rowOf(relation, thing));
+                found += Long.bitCount(rowOf(relation, thing) & ~bit(thing));
             }
             return found;
         }

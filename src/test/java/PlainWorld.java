@@ -846,7 +846,9 @@ public final class PlainWorld {
         }
         for (int r = 0; r < forms.size(); r++) {
             int couples = 0;
-            for (int a = 0; a < things.size(); a++) for (int b = 0; b < things.size(); b++) couples += related(r, a, b);
+            for (int a = 0; a < things.size(); a++) {
+                for (int b = 0; b < things.size(); b++) couples += a == b ? 0 : related(r, a, b);
+            }
             words.addAll(List.of(forms.get(r), couples));
         }
         return words.size();

@@ -6,6 +6,7 @@ public final class WholeTest {
     public static void main(String[] args) {
         words();
         couples();
+        couplesOfGroups();
         mostWords();
         sentences();
         counts();
@@ -71,8 +72,28 @@ public final class WholeTest {
         due.is("49 form", x.word(n - 6), 2);
         due.is("49 many to one", x.word(n - 5), 2);
         due.is("49 each other", x.word(n - 3), 6);
-        // Each of the five has itself, as related() tells: 9 of the group of three, and 2.
-        due.is("49 groups", x.word(n - 1), 11);
+        // A couple is of two: 6 of the group of three, none of those that are alone.
+        due.is("49 groups", x.word(n - 1), 6);
+        due.is("27 a thing with itself", x.related(2, 4, 4), 1);
+    }
+
+    private static void couplesOfGroups() {
+        WorldMake x = new WorldMake();
+        x.thing(1, 0);
+        x.relation(5);
+        due.is("49 words of one", x.make(), 15);
+        due.is("49 one thing, no couple", x.word(14), 0);
+        due.is("51 one thing, no couple", x.digest(), 8907379409805641017L);
+        for (int i = 1; i < 64; i++) {
+            x.thing(0, 0);
+        }
+        x.make();
+        due.is("49 all alone", x.word(x.count(8) - 1), 0);
+        for (int i = 1; i < 64; i++) {
+            x.relate(0, i - 1, i);
+        }
+        x.make();
+        due.is("49 all together", x.word(x.count(8) - 1), 64 * 63);
     }
 
     private static void mostWords() {
