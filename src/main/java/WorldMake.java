@@ -1642,7 +1642,7 @@ public final class WorldMake {
 
         Walk walkFrom(int relation, int a) {
             walk.begin(a);
-            for (int i = 0; i < walk.number; i++) {
+            for (int i = 0; i < THINGS && i < walk.number; i++) {
                 int from = walk.reached[i];
                 long row = rowOf(relation, from);
                 for (int to = 0; to < things.number; to++) {
@@ -1742,7 +1742,7 @@ public final class WorldMake {
 
         Walk walkFrom(int a, boolean any) {
             walk.begin(a);
-            for (int i = 0; i < walk.number; i++) {
+            for (int i = 0; i < THINGS && i < walk.number; i++) {
                 int room = walk.reached[i];
                 for (int d = 0; d < DIRECTIONS; d++) {
                     if (isPassable(room, d, any)) {

@@ -189,6 +189,16 @@ public final class MapBoundsTest extends Bounds {
         s.does("exit", 0, 6, 2);
         s.due("31 in place of what was assumed of b", 4, "door", 4, 1, 6, 2);
         s.due("32 in place of what was assumed of b", 1, "leads", 2, 7);
+
+        Story t = with(DOOR, ROOM, ROOM);
+        t.does("door", 0, 1, 0, 2);
+        t.refused("31 the door 0, told by the sentence 0", against(0), "door", 0, 1, 2, 2);
+        t.due("34 the door 0 is not open", NONE, "route", 1, 2, false);
+
+        Story u = with(DOOR, ROOM, ROOM);
+        u.does("exit", 1, 0, NONE);
+        u.refused("31 a's exit is the sentence 0", against(0), "door", 0, 1, 0, 2);
+        u.refused("31 b's exit is the sentence 0", against(0), "door", 0, 2, 1, 1);
     }
 
     private static void doorFull() {
@@ -247,6 +257,7 @@ public final class MapBoundsTest extends Bounds {
         s.due("34 none", NONE, "route", 0, 1, true);
         s.due("35 none", NONE, "first", 0, 1, true);
         s.does("exit", 0, 7, 1);
+        s.due("34 from one that has no exit", NONE, "route", 2, 0, true);
         s.due("34 one", 1, "route", 0, 1, false);
         s.due("35 the direction 7", 7, "first", 0, 1, false);
         s.due("34 by what is assumed", 1, "route", 1, 0, false);

@@ -42,6 +42,9 @@ public final class PlacesBoundsTest extends Bounds {
         s.refused("19 a bit of no holder, beside others", STATE, "among", 2, set(0, 1, 3));
         s.refused("19 a thing's own bit", STATE, "among", 2, set(2));
         s.due("19 all holders", 0, "among", 2, set(0, 1));
+        Story o = with(THING, ROOM, THING);
+        o.refused("19 the bit of the thing 0, no holder", STATE, "among", 2, set(0));
+        o.refused("19 the bit of the thing 0, beside a holder", STATE, "among", 2, set(0, 1));
         s.due("23 all holders", set(0, 1), "set", 2);
 
         Story t = story();
@@ -118,6 +121,10 @@ public final class PlacesBoundsTest extends Bounds {
         s.due("23 one is left", set(2), "set", 3);
         s.refused("19 the latest among ahead of the bars", against(4), "among", 3, set(0, 1));
         s.due("19 another's bars do not count", 5, "among", 4, set(1));
+
+        Story t = with(ROOM, THING);
+        t.does("bar", 1, 0);
+        t.refused("19 the bar is the sentence 0", against(0), "among", 1, set(0));
     }
 
     private static void amongFull() {
@@ -265,6 +272,10 @@ public final class PlacesBoundsTest extends Bounds {
         u.refused("21 the put of settle, by number", against(3), "most", 0, 1);
         u.due("21 as many as were settled", 4, "most", 0, 2);
 
+        Story v = with(ROOM, THING);
+        v.does("put", 1, 0);
+        v.refused("21 the put is the sentence 0", against(0), "most", 0, 0);
+
         Story w = with(ROOM, THING);
         w.does("among", 1, set(0));
         w.due("21 what is not settled does not lie there", 1, "most", 0, 0);
@@ -316,6 +327,7 @@ public final class PlacesBoundsTest extends Bounds {
         ways("22 60 x 50 = 3000", new int[] {60, 50}, 2);
         ways("22 13 x 11 x 7 x 3 = 3003", new int[] {13, 11, 7, 3}, STATE);
         ways("22 61 x 50 = 3050", new int[] {61, 50}, STATE);
+        ways("22 60 x 50 x 2, though 3000 came first", new int[] {60, 50, 2}, STATE);
         ways("22 56 seven times, which is above an int", new int[] {56, 56, 56, 56, 56, 56, 56}, STATE);
         ways("22 2 to the 32nd, which is 0 as an int", new int[] {32, 32, 32, 32, 32, 32, 4}, STATE);
 
@@ -324,6 +336,17 @@ public final class PlacesBoundsTest extends Bounds {
         s.does("among", 3, set(0, 1));
         s.does("put", 3, 1);
         s.due("22 only of the unsettled ones", 1, "settle");
+
+        Story t = with(THING, THING, THING);
+        for (int room = 3; room < 18; room++) {
+            t.does("thing", ROOM, 0);
+        }
+        for (int thing = 0; thing < 3; thing++) {
+            t.does("among", thing, 0x7fff << 3);
+        }
+        t.refused("22 15 x 15 x 15, the thing 0 among them", STATE, "settle");
+        t.does("put", 0, 17);
+        t.due("22 15 x 15 without it", 2, "settle");
     }
 
     private static void ways(String why, int[] sizes, int want) {
@@ -398,6 +421,14 @@ public final class PlacesBoundsTest extends Bounds {
         u.due("22 the only one that is no ring", 2, "settle");
         u.due("13 in the room", 3, "place", 2, 0);
         u.due("13 in the carrier", 2, "place", 1, 0);
+
+        Story w = story();
+        for (int i = 0; i < 64; i++) {
+            w.does("thing", CARRIER, 0);
+        }
+        w.does("put", 0, 63);
+        w.does("among", 63, set(0));
+        w.refused("22 a ring of the first and the last thing", NOWAY, "settle");
     }
 
     private static void settleCrowded() {
@@ -427,6 +458,15 @@ public final class PlacesBoundsTest extends Bounds {
         w.does("most", 0, 0);
         w.does("among", 1, set(0));
         w.refused("22 a most of 0", NOWAY, "settle");
+
+        Story v = with(ROOM, ROOM, THING, THING);
+        v.does("most", 0, 1);
+        v.does("among", 2, set(0, 1));
+        v.does("among", 3, set(0));
+        v.due("22 the one makes place for the other", 2, "settle");
+        v.due("13 the one", 1, "place", 2, 0);
+        v.due("13 the other", 0, "place", 3, 0);
+        v.refused("7 now it has as many", against(0), "put", v.does("thing", THING, 0), 0);
     }
 
     private static void settlePairs() {

@@ -76,6 +76,15 @@ public final class PutBoundsTest extends Bounds {
         u.does("among", 0, set(1));
         u.due("7 what may come to lie in it does not yet", 1, "put", 1, 0);
         u.refused("22 now it can't", NOWAY, "settle");
+
+        Story w = story();
+        for (int i = 0; i < 64; i++) {
+            w.does("thing", CARRIER, 0);
+        }
+        for (int i = 0; i < 63; i++) {
+            w.does("put", i, i + 1);
+        }
+        w.refused("7 the outermost of 64 in the innermost", STATE, "put", 63, 0);
     }
 
     private static void thereAlready() {
@@ -211,6 +220,12 @@ public final class PutBoundsTest extends Bounds {
         u.does("pair", 2, 3, true);
         u.does("among", 3, set(0));
         u.due("7 one that is not settled was not put", 2, "put", 2, 1);
+
+        Story v = with(THING, ROOM, ROOM, THING);
+        v.does("pair", 3, 0, true);
+        v.does("put", 0, 1);
+        v.refused("7 a pair with the thing 0", against(0), "put", 3, 2);
+        v.due("7 with the thing 0", 2, "put", 3, 1);
 
         Story w = with(ROOM, ROOM, THING, THING);
         w.does("pair", 2, 3, true);

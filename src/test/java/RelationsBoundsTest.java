@@ -98,6 +98,9 @@ public final class RelationsBoundsTest extends Bounds {
         s.refused("25 each other, the first of both, turned", against(0), "relate", 0, 1, 0);
         s.does("deny", 0, 2, 3);
         s.refused("25 each other, the only one, turned", against(2), "relate", 0, 3, 2);
+        s.due("25 each other, denied with another", 3, "relate", 0, 3, 1);
+        s.due("25 each other, denied to another", 4, "relate", 0, 1, 2);
+        s.due("25 each other, neither was denied", 5, "relate", 0, 4, 5);
 
         Story t = withRelation(0);
         t.does("relate", 0, 0, 1);
@@ -159,6 +162,10 @@ public final class RelationsBoundsTest extends Bounds {
         w.does("relate", 0, 0, 2);
         w.due("25 each other, a has more", 1, "relate", 0, 0, 3);
         w.due("25 each other, another has b, too", 2, "relate", 0, 1, 2);
+        w.due("27 each other, b has both", 1, "related", 0, 2, 0);
+        w.due("27 each other, b has both, the other", 1, "related", 0, 2, 1);
+        w.due("27 each other, a has both", 1, "related", 0, 0, 2);
+        w.due("27 each other, a has both, the other", 1, "related", 0, 0, 3);
     }
 
     private static void relateFull() {
@@ -202,6 +209,8 @@ public final class RelationsBoundsTest extends Bounds {
         s.refused("26 each other", against(1), "deny", 0, 0, 1);
         s.refused("26 each other, turned", against(1), "deny", 0, 1, 0);
         s.due("26 each other, none", 2, "deny", 0, 0, 4);
+        s.refused("26 each other, the sentence 0", against(0), "deny", 0, 4, 5);
+        s.refused("26 each other, the sentence 0, turned", against(0), "deny", 0, 5, 4);
 
         Story t = withRelation(3);
         t.does("relate", 0, 1, 0);
@@ -222,6 +231,16 @@ public final class RelationsBoundsTest extends Bounds {
         s.refused("26 groups, the earlier one", against(2), "deny", 0, 2, 4);
         s.refused("26 groups, the first one", against(0), "deny", 0, 1, 0);
         s.refused("26 groups, denied already ahead of all", STATE, "deny", 0, 5, 0);
+
+        Story t = withRelation(5);
+        t.does("relation", 5);
+        t.does("put", 0, 1);
+        t.does("relate", 1, 0, 1);
+        t.does("relate", 0, 1, 2);
+        t.does("relate", 0, 0, 2);
+        t.refused("26 groups of another relation do not count", against(3), "deny", 0, 0, 1);
+        t.refused("26 groups of the other relation", against(1), "deny", 1, 1, 0);
+        t.due("26 groups that are apart in the other relation", 4, "deny", 1, 0, 2);
     }
 
     private static void denyFull() {
@@ -275,7 +294,19 @@ public final class RelationsBoundsTest extends Bounds {
             s.due(why + ", two steps", form == 5 ? 1 : 2, "along", 0, 0, 2);
             s.due(why + ", back", form == 5 ? 1 : form == 4 ? 2 : NONE, "along", 0, 2, 0);
             s.due(why + ", a is b, though it could walk", 0, "along", 0, 0, 0);
+            s.due(why + ", from one that has none", NONE, "along", 0, 5, 2);
         }
+        Story s = story();
+        for (int t = 0; t < 64; t++) {
+            s.does("thing", THING, 0);
+        }
+        s.does("relation", 3);
+        for (int t = 63; t > 0; t--) {
+            s.does("relate", 0, t, t - 1);
+        }
+        s.due("28 the most steps there can be", 63, "along", 0, 63, 0);
+        s.due("29 the most steps there can be", 62, "next", 0, 63, 0);
+        s.due("28 all the way back", NONE, "along", 0, 0, 63);
     }
 
     private static void next() {

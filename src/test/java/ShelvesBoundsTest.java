@@ -157,6 +157,16 @@ public final class ShelvesBoundsTest extends Bounds {
         s.due("39 up to both ends", 1, "haul", 0, 3, 1, 2, 1);
         s.due("38 up to both ends", 1, "stands", 1, 2);
         s.due("39 all of both that fits", 2, "haul", 0, 0, 1, 0, 2);
+
+        Story t = with(THING);
+        t.does("shelf", THING, 16);
+        t.does("shelf", THING, 16);
+        t.does("stand", 0, 0, 0);
+        t.does("stand", 0, 15, 0);
+        t.due("39 all 16 places", 16, "haul", 0, 0, 1, 0, 16);
+        t.due("38 the first of 16", 0, "stands", 1, 0);
+        t.due("38 the last of 16", 0, "stands", 1, 15);
+        t.refused("39 17 places", INDEX, "haul", 0, 0, 1, 0, 17);
     }
 
     private static void haulOfNone() {

@@ -43,9 +43,20 @@ final class Story {
     private final Due due;
     private final WorldMake world = new WorldMake();
     private final List<Call> told = new ArrayList<>();
+    private final int[] counts = new int[10];
+    private int calls;
 
     Story(Due due) {
         this.due = due;
+    }
+
+    /** Behind the 512th call an object may answer what it likes; some calls are left for the comparisons. */
+    private long answer(Call c) {
+        calls++;
+        if (calls > CALLS - counts.length - 2) {
+            throw new IllegalStateException("this story is too long");
+        }
+        return c.on(world);
     }
 
     private static Call call(String name, Object... numbers) {
@@ -61,7 +72,7 @@ final class Story {
     int does(String name, Object... numbers) {
         Call c = call(name, numbers);
         told.add(c);
-        long got = c.on(world);
+        long got = answer(c);
         due.is(c + " of the setting was refused", got < 0 ? got : 0, 0);
         return (int) got;
     }
@@ -70,13 +81,17 @@ final class Story {
     void due(String why, long want, String name, Object... numbers) {
         Call c = call(name, numbers);
         told.add(c);
-        due.is(why + ": " + c, c.on(world), want);
+        due.is(why + ": " + c, answer(c), want);
     }
 
     /** A call that is refused, comes to a fault or goes against a sentence, and changes nothing else. */
     void refused(String why, long want, String name, Object... numbers) {
         Call c = call(name, numbers);
-        due.is(why + ": " + c, c.on(world), want);
+        due.is(why + ": " + c, answer(c), want);
+        WorldMake counted = again();
+        for (int what = 0; what < counts.length; what++) {
+            counts[what] = counted.count(what);
+        }
         int room = CALLS - 2 - told.size();
         List<Call> questions = questions();
         for (int from = 0; from < questions.size(); from += room) {
@@ -114,10 +129,10 @@ final class Story {
 
     /** Tells sentences that say nothing new until there are n of them. */
     void sentences(int n) {
-        int thing = world.count(2) - 1;
+        int thing = does("count", 2) - 1;
         int property = does("property", 0, 0, 0);
-        while (world.count(3) < n) {
-            does("give", thing, property, 1);
+        for (int s = does("count", 3); s < n; s++) {
+            due("a sentence more", s, "give", thing, property, 1);
         }
     }
 
@@ -141,8 +156,12 @@ final class Story {
         return all;
     }
 
+    private int counts(int what) {
+        return counts[what];
+    }
+
     private int things() {
-        return Math.min(NEAR + 1, world.count(2));
+        return Math.min(NEAR + 1, counts(2));
     }
 
     private List<Call> questions() {
@@ -150,7 +169,7 @@ final class Story {
         for (int what = 0; what < 10; what++) {
             out.add(call("count", what));
         }
-        for (int kind = 0; kind < world.count(0); kind++) {
+        for (int kind = 0; kind < counts(0); kind++) {
             for (int other = 0; other <= kind; other++) {
                 out.add(call("is", kind, other));
             }
@@ -173,7 +192,7 @@ final class Story {
     }
 
     private void askSentences(List<Call> out) {
-        int n = world.count(3);
+        int n = counts(3);
         for (int s = 0; s < n; s++) {
             for (int what = 0; what < 3 && (s < 20 || s > n - 5); what++) {
                 out.add(call("sentence", s, what));
@@ -193,12 +212,12 @@ final class Story {
             }
             out.add(call("mark", thing, 0));
             out.add(call("mark", thing, 1));
-            for (int property = 0; property < world.count(1); property++) {
+            for (int property = 0; property < counts(1); property++) {
                 out.add(call("value", thing, property));
                 out.add(call("given", thing, property));
             }
         }
-        for (int property = 0; property < world.count(1); property++) {
+        for (int property = 0; property < counts(1); property++) {
             for (int lane = 0; lane < 9; lane++) {
                 out.add(call("peek", property, lane, 0));
                 out.add(call("peek", property, lane, 63));
@@ -207,7 +226,7 @@ final class Story {
     }
 
     private void askRelations(List<Call> out) {
-        for (int r = 0; r < world.count(4); r++) {
+        for (int r = 0; r < counts(4); r++) {
             for (int a = 0; a < things(); a++) {
                 for (int b = 0; b < things(); b++) {
                     out.add(call("related", r, a, b));
@@ -218,19 +237,19 @@ final class Story {
     }
 
     private void askRows(List<Call> out) {
-        for (int shelf = 0; shelf < world.count(5); shelf++) {
+        for (int shelf = 0; shelf < counts(5); shelf++) {
             for (int i = 0; i < 16; i++) {
                 out.add(call("stands", shelf, i));
             }
         }
-        for (int table = 0; table < world.count(6); table++) {
+        for (int table = 0; table < counts(6); table++) {
             for (int row = 0; row < 16; row++) {
                 for (int column = 0; column < 5; column++) {
                     out.add(call("read", table, row, column));
                 }
             }
         }
-        for (int i = 0; i < world.count(8); i++) {
+        for (int i = 0; i < counts(8); i++) {
             out.add(call("word", i));
         }
     }
@@ -278,7 +297,7 @@ final class Story {
 
     private List<Call> relating(String name) {
         List<Call> out = new ArrayList<>();
-        for (int r = 0; r < world.count(4); r++) {
+        for (int r = 0; r < counts(4); r++) {
             for (int a = 0; a < things(); a++) {
                 for (int b = 0; b < things(); b++) {
                     out.add(call(name, r, a, b));
@@ -308,13 +327,13 @@ final class Story {
 
     private List<Call> values() {
         List<Call> out = new ArrayList<>();
-        for (int kind = 0; kind < world.count(0); kind++) {
+        for (int kind = 0; kind < counts(0); kind++) {
             out.add(call("thing", kind, 1));
-            for (int property = 0; property < world.count(1); property++) {
-                out.add(call("value", world.count(2) + kind, property));
+            for (int property = 0; property < counts(1); property++) {
+                out.add(call("value", counts(2) + kind, property));
             }
         }
-        for (int property = 0; property < world.count(1); property++) {
+        for (int property = 0; property < counts(1); property++) {
             for (int thing = 0; thing < things(); thing++) {
                 out.add(call("give", thing, property, thing));
                 out.add(call("give", thing, property, -9));
@@ -327,14 +346,14 @@ final class Story {
 
     private List<Call> rows() {
         List<Call> out = new ArrayList<>();
-        for (int shelf = 0; shelf < world.count(5); shelf++) {
+        for (int shelf = 0; shelf < counts(5); shelf++) {
             for (int thing = 0; thing < things(); thing++) {
                 out.add(call("stand", shelf, thing, thing));
             }
             out.add(call("haul", shelf, 0, 0, 0, 2));
             out.add(call("stands", 0, 1));
         }
-        for (int table = 0; table < world.count(6); table++) {
+        for (int table = 0; table < counts(6); table++) {
             for (int column = 0; column < 5; column++) {
                 out.add(call("total", table, column));
                 out.add(call("rank", table, column, column % 2 == 0));

@@ -244,6 +244,22 @@ public final class TablesBoundsTest extends Bounds {
         s.due("46 whole rows", 2, "rank", 0, 0, false);
         s.refused("46 a blank comes along", NULL, "read", 0, 0, 1);
         s.due("46 a value comes along", 7, "read", 0, 1, 1);
+
+        Story t = story();
+        t.does("table", 16, 5, 55555);
+        for (int row = 0; row < 16; row++) {
+            for (int column = 0; column < 5; column++) {
+                t.does("fill", 0, row, column, 100 * column - row);
+            }
+        }
+        t.due("46 16 rows of 5 columns", 16, "rank", 0, 4, false);
+        for (int row = 0; row < 16; row++) {
+            for (int column = 0; column < 5; column++) {
+                t.due("46 each cell of them", 100 * column + row - 15, "read", 0, row, column);
+            }
+        }
+        t.due("47 of 16 rows", -120, "total", 0, 0);
+        t.due("48 of 16 rows", -7, "mean", 0, 0);
     }
 
     private static void rankOfEachLane() {

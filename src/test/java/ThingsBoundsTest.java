@@ -260,6 +260,22 @@ public final class ThingsBoundsTest extends Bounds {
         s.does("remark", coin, 0, 999);
         s.due("14 marks change no bulk", 133, "says", room, 0);
         s.due("14 marks change no worth", 10, "says", coin, 1);
+
+        Story t = story();
+        t.does("thing", THING, 4);
+        t.does("thing", CARRIER, 0);
+        t.does("put", 0, 1);
+        t.due("14 the thing 0 is a load, too", 4, "says", 1, 2);
+
+        Story u = story();
+        for (int i = 0; i < 64; i++) {
+            u.does("thing", PERSON, 1000);
+        }
+        for (int i = 0; i < 63; i++) {
+            u.does("put", i, i + 1);
+        }
+        u.due("14 the greatest load there can be", 63 * 1010, "says", 63, 2);
+        u.due("14 the greatest bulk", 64 * 1010, "says", 63, 0);
     }
 
     /** 1000 / LOAD, cut, on both sides of the loads at which it changes. */

@@ -17,6 +17,8 @@ public final class WholeBoundsTest extends Bounds {
         faultStays();
         clear();
         clearOfAll();
+        clearOfSentences();
+        clearOfCounts();
         due.end();
     }
 
@@ -38,6 +40,14 @@ public final class WholeBoundsTest extends Bounds {
         Story t = story();
         t.does("thing", t.does("kind", ROOM), 0);
         t.due("49 a kind under room is enough", 2 + 3 + 8, "make");
+        t.does("clear");
+        t.refused("49 no room is left of those ahead of clear", STATE, "make");
+
+        Story u = story();
+        for (int i = 0; i < 64; i++) {
+            u.does("thing", CARRIER, 0);
+        }
+        u.refused("49 64 things, but no room", STATE, "make");
     }
 
     private static void makeLeast() {
@@ -385,5 +395,80 @@ public final class WholeBoundsTest extends Bounds {
         s.due("55 a pair may be told otherwise", 4, "pair", 5, 6, true);
         s.due("55 a most may be told", 5, "most", 1, 1);
         s.due("55 the door may be told", 6, "door", 2, 0, 2, 1);
+    }
+
+    /** The same numbers of sentences come again behind clear(), and none of those told ahead of it counts. */
+    private static void clearOfSentences() {
+        Story s = with(ROOM, ROOM, THING, THING);
+        s.does("relation", 3);
+        s.does("deny", 0, 2, 3);
+        s.does("clear");
+        again(s, 0);
+        s.due("55 what was denied", 0, "relate", 0, 2, 3);
+        s.does("clear");
+        again(s, 0);
+        s.due("55 what a had", 0, "relate", 0, 2, 0);
+        s.does("clear");
+        again(s, 3);
+        s.due("55 what a had may be denied", 0, "deny", 0, 2, 0);
+        s.does("clear");
+        again(s, 3);
+        s.due("55 what was denied may be so again", 0, "deny", 0, 2, 0);
+        s.does("clear");
+        again(s, 5);
+        s.does("relate", 0, 0, 1);
+        s.does("clear");
+        again(s, 5);
+        s.due("55 who was together", 0, "deny", 0, 0, 1);
+        s.does("clear");
+        again(s, 3);
+        s.does("put", 2, 0);
+        s.does("bar", 3, 0);
+        s.does("clear");
+        again(s, 3);
+        s.due("55 what was put", 0, "bar", 2, 0);
+        s.due("55 what was barred", 1, "put", 3, 0);
+        s.due("55 only what was put since counts", 2, "most", 0, 1);
+    }
+
+    private static void again(Story s, int form) {
+        for (int base : new int[] {ROOM, ROOM, THING, THING}) {
+            s.does("thing", base, 0);
+        }
+        s.does("relation", form);
+    }
+
+    /** What was counted or barred ahead of clear() is not, behind it. */
+    private static void clearOfCounts() {
+        Story s = with(ROOM, ROOM, THING, THING);
+        s.does("put", 2, 0);
+        s.does("bar", 3, 0);
+        s.does("among", 3, set(1));
+        s.does("clear");
+        s.does("thing", ROOM, 0);
+        s.does("thing", ROOM, 0);
+        s.does("thing", THING, 0);
+        s.due("55 nothing is unsettled", 0, "settle");
+        s.due("53 nothing is unsettled", 0, "count", 7);
+        s.does("thing", THING, 0);
+        s.due("55 one at most", 0, "most", 0, 1);
+        s.due("55 it is the first there", 1, "put", 2, 0);
+        s.due("55 it may be there", 2, "among", 3, set(0, 1));
+        s.due("55 it is not barred there", set(0, 1), "set", 3);
+
+        Story t = story();
+        t.does("table", 16, 5, 55555);
+        for (int row = 0; row < 16; row++) {
+            for (int column = 0; column < 5; column++) {
+                t.does("fill", 0, row, column, 1);
+            }
+        }
+        t.does("clear");
+        t.does("table", 16, 5, 0);
+        for (int row = 0; row < 16; row++) {
+            for (int column = 0; column < 5; column++) {
+                t.due("55 each cell is blank", 0, "blank", 0, row, column);
+            }
+        }
     }
 }
