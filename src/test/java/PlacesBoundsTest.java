@@ -189,6 +189,11 @@ public final class PlacesBoundsTest extends Bounds {
         u.refused("20 put in the same, turned", against(1), "pair", 2, 1, false);
         u.due("20 put so", 2, "pair", 1, 2, true);
 
+        Story x = with(THING, ROOM, ROOM, THING, THING, THING);
+        x.does("pair", 3, 4, true);
+        x.due("20 the pair of two others does not count for the thing 0", 1, "pair", 5, 0, false);
+        x.due("20 nor with the thing 0 ahead", 2, "pair", 0, 5, false);
+
         Story w = with(ROOM, ROOM, THING, THING);
         w.does("among", 2, set(0));
         w.does("among", 3, set(1));
@@ -467,6 +472,16 @@ public final class PlacesBoundsTest extends Bounds {
         v.due("13 the one", 1, "place", 2, 0);
         v.due("13 the other", 0, "place", 3, 0);
         v.refused("7 now it has as many", against(0), "put", v.does("thing", THING, 0), 0);
+
+        Story x = with(ROOM, ROOM, ROOM, ROOM, THING, THING);
+        x.does("most", 2, 1);
+        x.does("among", 4, set(2, 3));
+        x.does("among", 5, set(2));
+        x.due("22 the one makes place for the other, not in the holder 0", 2, "settle");
+        x.due("13 the one, not in the holder 0", 3, "place", 4, 0);
+        x.due("13 the other, not in the holder 0", 2, "place", 5, 0);
+        x.due("7 the holder 0 has none", 5, "put", x.does("thing", THING, 0), 0);
+        x.refused("21 the one behind the first 0", against(5), "most", 0, 0);
     }
 
     private static void settlePairs() {
@@ -479,6 +494,12 @@ public final class PlacesBoundsTest extends Bounds {
         s.due("22 settle", 2, "settle");
         s.due("13 with one that was put", 1, "place", 3, 0);
         s.due("13 not with one that is settled", 0, "place", 4, 0);
+
+        Story w = with(THING, ROOM, ROOM, THING, THING, THING);
+        w.does("put", 0, 1);
+        w.does("pair", 3, 4, true);
+        w.does("among", 5, set(2));
+        w.due("22 a pair of others does not count, nor that the thing 0 lies elsewhere", 1, "settle");
 
         Story t = with(ROOM, ROOM, THING, THING);
         t.does("pair", 2, 3, true);

@@ -227,6 +227,12 @@ public final class PutBoundsTest extends Bounds {
         v.refused("7 a pair with the thing 0", against(0), "put", 3, 2);
         v.due("7 with the thing 0", 2, "put", 3, 1);
 
+        Story x = with(THING, ROOM, ROOM, THING, THING, THING);
+        x.does("put", 0, 1);
+        x.does("pair", 3, 4, true);
+        x.does("pair", 4, 3, true);
+        x.due("7 a pair of others does not count, nor that the thing 0 lies elsewhere", 3, "put", 5, 2);
+
         Story w = with(ROOM, ROOM, THING, THING);
         w.does("pair", 2, 3, true);
         w.does("among", 3, set(0));
